@@ -225,7 +225,7 @@ public final class LoopJudge {
         int above = 0;
         for (int set = 0; set < SETS_OF_PARTS; set++) {
             for (int k = 0; k < PARTS; k++) {
-                poly[k] = now.parts[k] + (set >> k & 1);
+                poly[k] = now.parts[k] + ((set >> k) & 1);
             }
             if (judge.isSteady(AXIS, poly)) {
                 above += oddsOf(c, Integer.bitCount(set));
@@ -322,7 +322,7 @@ public final class LoopJudge {
                 set |= 1 << m;
             }
             if (judge.isSteady(CIRCLE, poly)) {
-                set |= 1 << CIRCLE_BITS + m;
+                set |= 1 << (CIRCLE_BITS + m);
             }
         }
         return set;
@@ -460,8 +460,8 @@ public final class LoopJudge {
     }
 
     private static long commonDivisor(long a, long b) {
-        long x = Math.abs(a);
-        long y = Math.abs(b);
+        long x = a < 0 ? -a : a;
+        long y = b < 0 ? -b : b;
         // Euclid's way takes fewer than a hundred steps on longs
         for (int step = 0; step < 200 && y != 0; step++) {
             long rest = x % y;
@@ -524,9 +524,9 @@ public final class LoopJudge {
         }
 
         void drawOnce() {
-            draw = draw * 1103515245 + 12345 & Integer.MAX_VALUE;
+            draw = (draw * 1103515245 + 12345) & Integer.MAX_VALUE;
             int x = draw / 65536;
-            parts[x % 2 * PARTS + x / 2 % PARTS] = x / 16 % 19 - MOST_PART;
+            parts[(x % 2) * PARTS + (x / 2) % PARTS] = (x / 16) % 19 - MOST_PART;
         }
     }
 
@@ -668,11 +668,13 @@ public final class LoopJudge {
 
         void countRootsOf(int by, long[] parts) {
             if (by == AXIS) {
-                countByAxis(parts);
+                chain.fill(parts);
+                countByChain();
                 return;
             }
             turn(parts);
-            countByAxis(turned);
+            chain.fill(turned);
+            countByChain();
             // a root -1 goes to no number at all by the change of variable: the degree falls instead
             even += TOP - degreeOf(turned);
             left -= TOP - degreeOf(parts);
@@ -695,7 +697,7 @@ public final class LoopJudge {
          */
         private void turn(long[] parts) {
             int lack = TOP - degreeOf(parts);
-            long b0 = lack > 0 ? 0 : parts[0];
+            long b0 = partBelow(parts, 0, lack);
             long b1 = partBelow(parts, 1, lack);
             long b2 = partBelow(parts, 2, lack);
             long b3 = partBelow(parts, 3, lack);
@@ -715,11 +717,10 @@ public final class LoopJudge {
          * The last line holds the roots that lie evenly about the axis. Of the others, LEFT less RIGHT is how
          * far the signs along the axis turn, which a chain of remainders tells at its two ends.
          */
-        private void countByAxis(long[] parts) {
+        private void countByChain() {
             right = 0;
             even = 0;
             left = 0;
-            chain.fill(parts);
             if (chain.size == 0) {
                 return;
             }
@@ -780,7 +781,10 @@ public final class LoopJudge {
             return real && b != 0 && (a < 0) == (b < 0) ? 4 : 0;
         }
 
-        /** All PARTS up to the DEGREE bear one sign, and the last determinants are above 0. */
+        /**
+         * All PARTS up to the DEGREE bear one sign, and the last determinants are above 0: what the rows would
+         * tell, too, but spans and boxes ask so often that no chain is made for it.
+         */
         private static boolean isSteadyByAxis(long[] p) {
             int degree = degreeOf(p);
             if (degree == NO_DEGREE) {
@@ -788,7 +792,7 @@ public final class LoopJudge {
             }
             boolean minus = p[degree] < 0;
             for (int k = 0; k < degree; k++) {
-                if (p[k] == 0 || p[k] < 0 != minus) {
+                if (p[k] == 0 || (p[k] < 0) != minus) {
                     return false;
                 }
             }
@@ -808,7 +812,7 @@ public final class LoopJudge {
     private static final class SpanBook {
         /**
          * Steadiness goes by the signs of five numbers linear in GAIN and of one cubic in it, and may differ
-         * at the one GAIN where the degree falls: no more than ten SPANS.
+         * at the one GAIN where the degree falls: there are never more than a dozen SPANS.
          */
         private static final int MOST_SPANS = 32;
 

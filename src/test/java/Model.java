@@ -461,12 +461,12 @@ final class Model {
         throw e;
     }
 
-    private static void needRoom(Object row, int lane) {
-        // the machine looks for null ahead of the cast only where the row is used
+    /** Throws as the machine would where a row is used; null alone passes a cast. */
+    private static void take(Object row, int lane) {
         if (row == null) {
             throw new NullPointerException();
         }
-        get(row.getClass() == rowOf(lane, 0).getClass() ? rowOf(lane, 1) : row, lane, 0);
+        rowOf(lane, 0).getClass().cast(row);
     }
 
     private static Object rowOf(int lane, int n) {
@@ -484,7 +484,7 @@ final class Model {
         }
         long[][] p = new long[n][5];
         try {
-            needRoom(sheets[sheet], lane);
+            take(sheets[sheet], lane);
             for (int m = 0; m < 5 * n; m++) {
                 p[m / 5][m % 5] = get(sheets[sheet], lane, i + m);
             }
@@ -509,7 +509,7 @@ final class Model {
             return -1;
         }
         try {
-            needRoom(sheets[sheet], lane);
+            take(sheets[sheet], lane);
             Object row = rowOf(lane, 5);
             for (int k = 0; k < 5; k++) {
                 set(row, lane, k, poly(which).get(k));
@@ -551,7 +551,7 @@ final class Model {
             return -1;
         }
         try {
-            needRoom(sheets[sheet], lane);
+            take(sheets[sheet], lane);
             set(sheets[sheet], lane, i, v);
             return 1;
         } catch (RuntimeException e) {

@@ -5,7 +5,7 @@ import java.math.BigInteger;
  * simple (exactly, so that the order of a root is sure), and those are found by iteration.
  */
 final class Oracle {
-    private static final double NEAR = 1e-7;
+    private static final double NEAR = 1e-10;
 
     private Oracle() {
     }

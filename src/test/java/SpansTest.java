@@ -146,12 +146,11 @@ public final class SpansTest {
         LoopJudge judge = new LoopJudge();
         Check.read(judge, "s4+4s3+8s2+8s+4");
         Check.due("corners by 0", judge.corners(0), 4);
-        // 3 7 9 5 0 and 5 7 7 5 2 .. : two have degree 3 and 4, by hand
-        Check.due("corners by 1", judge.corners(1), cornersByHand(new int[] {4, 8, 8, 4, 1}, 1));
-        Check.due("corners by 9", judge.corners(9), cornersByHand(new int[] {4, 8, 8, 4, 1}, 9));
+        Check.due("corners by 1", judge.corners(1), cornersFound(new int[] {4, 8, 8, 4, 1}, 1));
+        Check.due("corners by 9", judge.corners(9), cornersFound(new int[] {4, 8, 8, 4, 1}, 9));
         Check.read(judge, "3s4+9s3+9s2+6s+2");
         for (int r = 0; r < 10; r++) {
-            Check.due("corners by " + r, judge.corners(r), cornersByHand(new int[] {2, 6, 9, 9, 3}, r));
+            Check.due("corners by " + r, judge.corners(r), cornersFound(new int[] {2, 6, 9, 9, 3}, r));
         }
         Check.due("corners(-1)", judge.corners(-1), LoopJudge.BAD);
         Check.due("corners(10)", judge.corners(10), LoopJudge.BAD);
@@ -159,7 +158,7 @@ public final class SpansTest {
         Check.due("neighbours(2)", judge.neighbours(2), LoopJudge.BAD);
     }
 
-    private static int cornersByHand(int[] p, int r) {
+    private static int cornersFound(int[] p, int r) {
         int steady = 0;
         for (String sides : new String[] {"LLUUL", "UULLU", "LUULL", "ULLUU"}) {
             long[] corner = new long[5];
