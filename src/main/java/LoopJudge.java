@@ -607,7 +607,8 @@ public final class LoopJudge {
             long[] rest = lines[i];
             System.arraycopy(lines[i - 2], 0, rest, 0, PARTS);
             int low = degrees[i - 1];
-            for (int k = degrees[i - 2]; k >= low; k--) {
+            // a half has every other power alone
+            for (int k = degrees[i - 2]; k > low; k -= 2) {
                 strike(rest, k, lines[i - 1], low);
                 takeLowestTerms(rest);
             }
@@ -745,9 +746,8 @@ public final class LoopJudge {
                 // along the axis s times s is below 0: a gap of two degrees more turns the sign
                 boolean flipped = flippedTwoAhead != ((degreeTwoAhead - degree) % 4 == 0);
                 boolean minus = flipped != (chain.lines[i][degree] < 0);
-                if ((degreeAhead - degree) % 2 != 0) {
-                    turns += minus == minusAhead ? 1 : -1;
-                }
+                // of two lines one is even, one odd: their signs differ at just one of the two ends
+                turns += minus == minusAhead ? 1 : -1;
                 degreeTwoAhead = degreeAhead;
                 flippedTwoAhead = flippedAhead;
                 degreeAhead = degree;

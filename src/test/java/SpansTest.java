@@ -80,6 +80,9 @@ public final class SpansTest {
             gains += judge.at(1, v, 3) == 1 ? 1 : 0;
         }
         Check.due("behind a drift", judge.spans(1, 1), gains);
+        Check.tell(judge, new int[5], new int[5]);
+        Check.due("of nothing", judge.spans(1, 1), 0);
+        Check.due("of nothing", judge.spans(0, 0), 0);
     }
 
     private static void spansAreBad() {
