@@ -19,7 +19,6 @@ public final class LoopJudge {
     private static final int RIGHT = 0;
     private static final int EVEN = 1;
     private static final int LEFT = 2;
-    private static final int STEADY = 3;
     private static final int NO_DEGREE = -1;
 
     private static final int MOST_RADIUS = 9;
@@ -40,6 +39,8 @@ public final class LoopJudge {
     private static final int FIRST_FAULT = -20;
     private static final int NO_FAULT = -1;
     private static final int MOST_TURNS = 40;
+    /** THE DRAW has 31 bits. */
+    private static final int LOWEST_BITS = 0x7fffffff;
 
     private static final int SHEETS = 4;
     private static final int LANES = 4;
@@ -412,10 +413,8 @@ public final class LoopJudge {
                 return judge.even;
             case LEFT:
                 return judge.left;
-            case STEADY:
-                return judge.right == 0 && judge.even == 0 ? 1 : 0;
             default:
-                return BAD;
+                return judge.right == 0 && judge.even == 0 ? 1 : 0;
         }
     }
 
@@ -524,7 +523,7 @@ public final class LoopJudge {
         }
 
         void drawOnce() {
-            draw = (draw * 1103515245 + 12345) & Integer.MAX_VALUE;
+            draw = (draw * 1103515245 + 12345) & LOWEST_BITS;
             int x = draw / 65536;
             parts[(x % 2) * PARTS + (x / 2) % PARTS] = (x / 16) % 19 - MOST_PART;
         }
@@ -737,21 +736,18 @@ public final class LoopJudge {
         private int signTurns() {
             int turns = 0;
             int degreeTwoAhead = chain.degrees[0] + 1;
-            boolean flippedTwoAhead = false;
             int degreeAhead = chain.degrees[0];
-            boolean flippedAhead = false;
             boolean minusAhead = chain.lines[0][degreeAhead] < 0;
             for (int i = 1; i < chain.size; i++) {
                 int degree = chain.degrees[i];
-                // along the axis s times s is below 0: a gap of two degrees more turns the sign
-                boolean flipped = flippedTwoAhead != ((degreeTwoAhead - degree) % 4 == 0);
+                // along the axis s times s is below 0: a gap of two degrees more turns the sign, and that of
+                // each second line behind it, of which there is none where a degree is at most four
+                boolean flipped = (degreeTwoAhead - degree) % 4 == 0;
                 boolean minus = flipped != (chain.lines[i][degree] < 0);
                 // of two lines one is even, one odd: their signs differ at just one of the two ends
                 turns += minus == minusAhead ? 1 : -1;
                 degreeTwoAhead = degreeAhead;
-                flippedTwoAhead = flippedAhead;
                 degreeAhead = degree;
-                flippedAhead = flipped;
                 minusAhead = minus;
             }
             return turns;
@@ -799,12 +795,9 @@ public final class LoopJudge {
             if (degree < 3) {
                 return true;
             }
-            long inner = p[2] * p[1] - p[3] * p[0];
-            if (degree == 3) {
-                return inner > 0;
-            }
-            long outer = p[3] * inner - p[4] * p[1] * p[1];
-            return minus ? outer < 0 : outer > 0;
+            // of degree three PART 4 is 0, and the sign of PART 3 falls away against that of minus
+            long last = p[3] * (p[2] * p[1] - p[3] * p[0]) - p[4] * p[1] * p[1];
+            return minus ? last < 0 : last > 0;
         }
     }
 
