@@ -117,6 +117,26 @@ final class SpanEdges {
         judge.drift(9);
         dueAsAt(judge, 0);
         dueAsAt(judge, 1);
+        spansOfWhollyOtherLoops();
+    }
+
+    /** All PARTS become others at once, or none is left, or there are fewer spans than ahead of it. */
+    private static void spansOfWhollyOtherLoops() {
+        LoopJudge judge = Edge.judge("1", "1");
+        dueSpans(judge, 0, -800, -9, -7, 800);
+        Check.read(judge, "s4+4s3+8s2+8s+4;-s4-s3-s2-s-2");
+        dueAsAt(judge, 0);
+        dueAsAt(judge, 1);
+        for (int k = 0; k < 10; k++) {
+            judge.part(k / 5, k % 5, 0);
+        }
+        dueSpans(judge, 0);
+        dueSpans(judge, 1);
+        Edge.of(11, "WIDEST: by how many GAINS they have");
+        LoopJudge fewer = Edge.judge("1", "1");
+        dueWidest(fewer, 0, -7, 800, -800, -9);
+        Check.read(fewer, "s-1;-5s+9");
+        dueWidest(fewer, 0, 1, 1);
     }
 
     private static void dueAsAt(LoopJudge judge, int by) {
